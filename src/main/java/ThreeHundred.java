@@ -35,18 +35,12 @@ public final class ThreeHundred {
         if (!within(form, LEAST_FORM, 9999) || !within(td, 0, 100999) || td % 10 > 1) {
             return BAD;
         }
-        if (runners.size >= MOST_RUNNERS) {
-            return FULL;
-        }
         return runners.come(form, td / 1000 - 50, td / 10 % 100, td % 10);
     }
 
     public int shoe(int thick, int gives, int made) {
         if (!within(thick, 1, MOST_THICK) || !within(gives, -99, 99) || !within(made, 0, MOST_YEAR)) {
             return BAD;
-        }
-        if (shoes.size >= MOST_SHOES) {
-            return FULL;
         }
         return shoes.come(thick, gives, made);
     }
@@ -55,18 +49,12 @@ public final class ThreeHundred {
         if (!within(hard, 500, 2000)) {
             return BAD;
         }
-        if (courses.size >= MOST_COURSES) {
-            return FULL;
-        }
         return courses.come(hard);
     }
 
     public int ran(int rc, int ys, int time) {
         if (rc < 0 || ys < 0 || !isRun(rc / 100, rc % 100, ys / 10, time, ys % 10 - 1)) {
             return BAD;
-        }
-        if (runs.size >= MOST_RUNS) {
-            return FULL;
         }
         return runs.come(rc / 100, rc % 100, ys / 10, time, ys % 10 - 1);
     }
@@ -89,18 +77,14 @@ public final class ThreeHundred {
     }
 
     private boolean runFromRow(int shelf, long from) {
-        if (from < 0 || from + 5 > shelves.lengths[shelf] || runs.size >= MOST_RUNS) {
+        if (from < 0 || from + 5 > shelves.lengths[shelf]) {
             return false;
         }
         long[] row = shelves.elements[shelf];
         int i = (int) from;
         int runner = (int) row[i], course = (int) row[i + 1], year = (int) row[i + 2];
         int time = (int) row[i + 3], shoe = (int) row[i + 4];
-        if (!isRun(runner, course, year, time, shoe)) {
-            return false;
-        }
-        runs.come(runner, course, year, time, shoe);
-        return true;
+        return isRun(runner, course, year, time, shoe) && runs.come(runner, course, year, time, shoe) != FULL;
     }
 
     private boolean isRun(int runner, int course, int year, int time, int shoe) {
@@ -151,16 +135,10 @@ public final class ThreeHundred {
         if (!within(n, 1, 4)) {
             return BAD;
         }
-        if (laws.fed + n > MOST_BYTES) {
-            return FULL;
-        }
         return laws.take(n, v);
     }
 
     public int law() {
-        if (laws.size >= MOST_LAWS) {
-            return FULL;
-        }
         return laws.come();
     }
 
@@ -295,9 +273,6 @@ public final class ThreeHundred {
         if (!within(breath, 0, 99) || !within(time, 0, 99) || !belt.rises(breath)) {
             return BAD;
         }
-        if (belt.size >= MOST_POINTS) {
-            return FULL;
-        }
         return belt.come(breath, time);
     }
 
@@ -308,7 +283,7 @@ public final class ThreeHundred {
         if (belt.size == 0) {
             return STATE;
         }
-        int thousandths = belt.between(breath);
+        int thousandths = belt.at(breath);
         return runner == -1 ? thousandths : runners.form[runner] * thousandths / 1000;
     }
 
@@ -367,9 +342,6 @@ public final class ThreeHundred {
     public int body(int kind) {
         if (!within(kind, 0, Acts.KINDS - 1)) {
             return BAD;
-        }
-        if (acts.size >= MOST_BODIES) {
-            return FULL;
         }
         return acts.come(kind);
     }
@@ -490,6 +462,9 @@ public final class ThreeHundred {
         }
 
         int come(int itsForm, int itsDrift, int itsTraining, int itsSex) {
+            if (size >= MOST_RUNNERS) {
+                return FULL;
+            }
             form[size] = itsForm;
             drift[size] = itsDrift;
             trained[size] = itsTraining;
@@ -528,6 +503,9 @@ public final class ThreeHundred {
         }
 
         int come(int itsThickness, int itGives, int itsYear) {
+            if (size >= MOST_SHOES) {
+                return FULL;
+            }
             thick[size] = itsThickness;
             gives[size] = itGives;
             made[size] = itsYear;
@@ -544,6 +522,9 @@ public final class ThreeHundred {
         }
 
         int come(int itsHardness) {
+            if (size >= MOST_COURSES) {
+                return FULL;
+            }
             hard[size] = itsHardness;
             return size++;
         }
@@ -573,6 +554,9 @@ public final class ThreeHundred {
         }
 
         int come(int runner, int course, int year, int time, int shoe) {
+            if (size >= MOST_RUNS) {
+                return FULL;
+            }
             int run = size;
             runners[run] = runner;
             courses[run] = course;
@@ -778,7 +762,10 @@ public final class ThreeHundred {
         private int fault;
 
         int take(int n, int v) {
-            for (int k = 0; k < n && fed < MOST_BYTES; k++) {
+            if (fed + n > MOST_BYTES) {
+                return FULL;
+            }
+            for (int k = 0; k < n; k++) {
                 tape[fed] = (byte) (v >>> 8 * k);
                 fed++;
             }
@@ -786,6 +773,9 @@ public final class ThreeHundred {
         }
 
         int come() {
+            if (size >= MOST_LAWS) {
+                return FULL;
+            }
             int length = fed;
             fed = 0;
             read(tape, length);
@@ -806,7 +796,22 @@ public final class ThreeHundred {
             end = length;
             at = 0;
             fault = NO_FAULT;
-            return lines();
+            int value = 0;
+            boolean found = false, more = true;
+            for (int k = 0; k <= MOST_BYTES && more; k++) {
+                int first = either(0);
+                boolean isAsked = passes('?');
+                int then = isAsked ? either(0) : first;
+                if (!found && (!isAsked || first != 0)) {
+                    found = true;
+                    value = then;
+                }
+                more = passes(';');
+            }
+            if (at < end) {
+                fail();
+            }
+            return value;
         }
 
         // After a fault no byte is shown any more, so that all reading ends.
@@ -826,25 +831,6 @@ public final class ThreeHundred {
             if (fault == NO_FAULT) {
                 fault = at;
             }
-        }
-
-        private int lines() {
-            int value = 0;
-            boolean found = false, more = true;
-            for (int k = 0; k <= MOST_BYTES && more; k++) {
-                int first = either(0);
-                boolean isAsked = passes('?');
-                int then = isAsked ? either(0) : first;
-                if (!found && (!isAsked || first != 0)) {
-                    found = true;
-                    value = then;
-                }
-                more = passes(';');
-            }
-            if (at < end) {
-                fail();
-            }
-            return value;
         }
 
         private int either(int open) {
@@ -922,7 +908,11 @@ public final class ThreeHundred {
                 return named[name];
             }
             if (open < MOST_OPEN && passes('(')) {
-                return closed(either(open + 1));
+                int v = either(open + 1);
+                if (!passes(')')) {
+                    fail();
+                }
+                return v;
             }
             if (open < MOST_OPEN && passes('!')) {
                 return single(open + 1) == 0 ? 1 : 0;
@@ -932,13 +922,6 @@ public final class ThreeHundred {
             }
             fail();
             return 0;
-        }
-
-        private int closed(int v) {
-            if (!passes(')')) {
-                fail();
-            }
-            return v;
         }
 
         private static boolean isDigit(int c) {
@@ -1163,13 +1146,16 @@ public final class ThreeHundred {
         }
 
         int come(int breath, int time) {
+            if (size >= MOST_POINTS) {
+                return FULL;
+            }
             breaths[size] = breath;
             times[size] = time;
             size++;
             return size;
         }
 
-        int between(int breath) {
+        int at(int breath) {
             int before = 0;
             for (int k = 0; k < size; k++) {
                 if (breath <= breaths[k]) {
@@ -1189,8 +1175,8 @@ public final class ThreeHundred {
     private static final class Acts {
         static final int KINDS = 8, ACTS = 4;
         private static final int CALLS_GIVES = 0, CALLS_CHOOSES = 1, CALLS_PARTS = 2, CALLS_TELLS = 3;
-        private static final int NONE_ABOVE = -1, MOST_DEEP = 30;
-        private static final int[] ABOVE = {NONE_ABOVE, 0, 0, 1, 0, 2, 0, 4};
+        private static final int MOST_DEEP = 30;
+        private static final int[] ABOVE = {-1, 0, 0, 1, 0, 2, 0, 4};
         // By KINDS, four acts each: the number of the KIND's own body of an act, or 0.
         private static final int[] OWN = {
             1, 10, 11, 2,
@@ -1212,6 +1198,9 @@ public final class ThreeHundred {
         }
 
         int come(int kind) {
+            if (size >= MOST_BODIES) {
+                return FULL;
+            }
             kinds[size] = kind;
             return size++;
         }
