@@ -104,8 +104,18 @@ public final class LanguageTest {
             for (Method m : type.getDeclaredMethods()) {
                 must(m.getParameterCount() <= 7, "so many parameters: " + m);
                 must(!m.isSynthetic(), "made by the compiler: " + m);
+                must(type == ThreeHundred.class || !isOfFace(m.getName()), "bears a public name: " + m);
             }
         }
+    }
+
+    private static boolean isOfFace(String name) {
+        for (String one : FACE) {
+            if (one.contains(" " + name + "(")) {
+                return true;
+            }
+        }
+        return false;
     }
 
     private static void words() throws Exception {

@@ -76,6 +76,11 @@ public final class PromisesTest {
 
     private static void newObject() {
         ThreeHundred x = fresh(1);
+        int[] constants = {ThreeHundred.BAD, ThreeHundred.NOT, ThreeHundred.FULL, ThreeHundred.BIG, ThreeHundred.STATE, ThreeHundred.VOID};
+        int[] told = {-1, -2, -3, -4, -5, -2000000000};
+        for (int k = 0; k < 6; k++) {
+            due(constants[k], told[k]);
+        }
         int[] many = {0, 1, 0, 0, 0, 0, 0, 0, 0, 0};
         for (int what = 0; what < 10; what++) {
             due(x.count(what), many[what]);
@@ -126,6 +131,15 @@ public final class PromisesTest {
         x.ran(0, 101, 1000);
         due(x.shares(1, 0, 2), 1);
         due(x.shares(0, 0, 2), 0);
+        x = fresh(2);
+        x.runner(2000, 100991);
+        x.runner(9000, 10);
+        x.course(1000);
+        told(x, "(f=695&t=99&s=1)|(f=405&t=1&s=0)");
+        x.shoe(30, 10, 0);
+        due(x.race(0, 991, 0, 0), 2);
+        due(x.of(0, 4), 1);
+        due(x.of(1, 4), 1);
     }
 
     private static void shoe() {
@@ -310,6 +324,8 @@ public final class PromisesTest {
         due(x.of(4, 7), 3);
         due(x.of(2, 7), 0);
         due(x.of(6, 7), 0);
+        x.ran(0, 72, 1000);
+        due(x.of(7, 7), 1);
         x.mend(0, 1, 2);
         due(x.of(5, 7), 1);
         due(x.of(0, 7), 0);
@@ -442,7 +458,7 @@ public final class PromisesTest {
             "1<2", "2>1", "2=2", "(1<2)=1", "7/2=3", "-7/2=-3", "-7%4=-3", "7%-4=3", "5/0=0", "5%0=0", "!(5/0)", "2+3*4=14", "(2+3)*4=20",
             "10-3-2=5", "100/10/2=5", "100/10*2=20", "7%4%2=1", "0=!1", "!f=0", "!f+1=1", "-f+f=0", "f--f=240", "f-!f=120", "1|0&0", "(2|3)=1",
             "(2&3)=1", "1<2+3", "1+2=3", "1=1&2=2", "0007=7", "0?0;1", "1?1;0", "0?1;1", "0?1;0?1;1", "1?1", "2?1;0",
-            "9999*9999*22<0", "0-9999*9999*22>0", "-(9999*9999*22)>0",
+            "1?((((((1))))))", "1?!!!!!!1", "(2=2)=1", "(2>1)=1", "(1<2)=1", "!!1|f", "9999*9999*22<0", "0-9999*9999*22>0", "-(9999*9999*22)>0",
             "(0-2*2*2*2*2*2*2*2*2*2*2*2*2*2*2*2*2*2*2*2*2*2*2*2*2*2*2*2*2*2*2)/-1<0", "1;0", "-1?-1", "z<49&z>47", "0|0|1", "1&1&1", "3>2?k",
         };
         for (String text : so) {
@@ -519,6 +535,16 @@ public final class PromisesTest {
             due(x.of(k, 3), times[k]);
             due(x.of(k, 4), shoes[k]);
         }
+        // The second's draw is 88, the third's is 18; ahead of the third are two, of the second one.
+        x.law();
+        told(x, "z=88&p=1|z=18&p=2&n=3");
+        due(x.race(20, 51, 0, 0), 3);
+        due(x.of(4, 3), 2000 * (1000 - 1 - 50) / 1000);
+        due(x.of(5, 3), 2856);
+        x = threeOnTheLine();
+        x.ran(0, 1, 1000);
+        x.ran(0, 1, 1000);
+        x.ran(0, 1, 1000);
         // By seed -1 the good days are 5, -3, -7; a day of 20 thousandths more, a course of 1500.
         x.eyes(100);
         due(x.race(11, 991, 20, -1), 3);
@@ -619,6 +645,9 @@ public final class PromisesTest {
         due(x.changed(3, 1), 1);
         x.ran(100, 82, 1000);
         due(x.changed(3, 0), (200 + 250) / 2);
+        x.ran(100, 991, 10);
+        x.ran(100, 991, 29999);
+        due(x.changed(2, 0), (19 - 188 - 83 - 2998900) / 4);
     }
 
     private static void gain() {
@@ -641,6 +670,12 @@ public final class PromisesTest {
         x.ran(101, 2, 251);
         x.ran(101, 0, 10);
         due(x.gain(1), (45 + (600 - 501) * 1000 / 600) / 2);
+        x.person(0);
+        due(x.gain(1), (45 + (600 - 500) * 1000 / 600) / 2);
+        // The race that is the last of all.
+        x.ran(101, 991, 1000);
+        x.ran(1, 992, 700);
+        due(x.gain(1), (45 + 165 + 300) / 3);
         x = fresh(14);
         x.runner(1000, 50000);
         x.runner(1000, 50000);
@@ -715,6 +750,13 @@ public final class PromisesTest {
         // Old is 1000 alone, or new is.
         due(x.unseen(9, 0), -600);
         due(x.unseen(9, 1), 375);
+        int[] edges = {0, 100, 99, 199};
+        for (int cy : edges) {
+            x.ran(cy / 100, 10 * (cy % 100), 500 + cy);
+            x.ran(cy / 100, 10 * (cy % 100) + 1, 1000);
+            due(x.unseen(cy, 0), 500 - cy);
+            due(x.unseen(cy, 1), 500 - cy);
+        }
         x.ran(1200, 90, 1000);
         due(x.unseen(9, 0), VOID);
         due(x.unseen(9, 1), VOID);
@@ -768,6 +810,10 @@ public final class PromisesTest {
         due(x.shares(2, 0, 2), 4);
         due(x.shares(0, 0, 2), 2);
         due(x.shares(1, 0, 2), 2);
+        x.mend(1, 0, 999);
+        due(x.person(0), 1);
+        due(x.shares(2, 0, 1), 2);
+        due(x.shares(2, 1, 0), 2);
         due(x.shares(3, 0, 0), BAD);
         due(x.shares(-1, 0, 0), BAD);
         due(x.shares(0, 0, 3), BAD);
@@ -834,10 +880,13 @@ public final class PromisesTest {
             due(x.belt(-1, at[k]), give[k]);
         }
         due(x.belt(0, 15), 1299 * 23 / 1000);
+        x.runner(9999, 0);
+        x.point(30, 99);
+        due(x.belt(1, 99), 989);
         due(x.belt(-1, -1), BAD);
         due(x.belt(-1, 100), BAD);
         due(x.belt(-2, 0), BAD);
-        due(x.belt(1, 0), BAD);
+        due(x.belt(2, 0), BAD);
         due(x.belt(MIN, 0), BAD);
         due(x.belt(-1, MAX), BAD);
     }
@@ -891,6 +940,14 @@ public final class PromisesTest {
         due(x.records(0, 0, 0), 2);
         due(x.records(0, 0, 1), 6);
         due(x.records(1, 19, -1), 0);
+        x = fresh(21);
+        x.runner(1000, 50000);
+        x.course(1000);
+        x.ran(0, 1, 29999);
+        due(x.records(0, 99, -1), 1);
+        due(x.records(0, 99, 0), 0);
+        x.ran(0, 11, 29998);
+        due(x.records(0, 99, 1), 1);
     }
 
     private static void best() {
@@ -901,6 +958,8 @@ public final class PromisesTest {
         due(x.best(0, 50, 1), 46);
         due(x.best(0, 4, 1), 0);
         due(x.best(0, 1, 1), -3);
+        due(x.best(1, 0, 0), 8);
+        due(x.best(1, 0, 1), 0);
         due(x.best(0, 100, 0), BAD);
         due(x.best(0, -1, 0), BAD);
         due(x.best(0, 50, 2), BAD);
@@ -983,6 +1042,12 @@ public final class PromisesTest {
         due(x.needed(3), 625);
         x.mend(3, 0, 969);
         due(x.needed(3), 961);
+        x.mend(1, 0, 989);
+        x.mend(3, 0, 957);
+        // 11 and 43: mean 27, spread 256: one in the thousand would need 1025.
+        due(x.needed(3), NOT);
+        due(x.needed(1), 65);
+        x.mend(1, 0, 1000);
         x.mend(3, 0, 967);
         // 0 and 33: mean 16, the squares 256 and 289, spread 272.
         due(x.needed(3), NOT);
@@ -990,6 +1055,23 @@ public final class PromisesTest {
         x.mend(1, 1, -1);
         x.mend(3, 1, -1);
         due(x.needed(1), NOT);
+        // The spread of 0, 2, 68 is 998: 999 are enough for 2; that of 0, 5, 103 is 2248: 3 would need 1000.
+        due(neededBy(2, 2, 68), 999);
+        due(neededBy(-2, 2, 68), 999);
+        due(neededBy(3, 5, 103), NOT);
+    }
+
+    private static int neededBy(int gives, int second, int third) {
+        ThreeHundred x = new ThreeHundred();
+        x.course(1000);
+        x.shoe(40, gives, 0);
+        int[] gained = {0, second, third};
+        for (int k = 0; k < 3; k++) {
+            x.runner(1000, 50000);
+            x.ran(100 * k, 1, 1000);
+            x.ran(100 * k, 11, 1000 - gained[k]);
+        }
+        return x.needed(1);
     }
 
     private static void undo() {
@@ -1026,6 +1108,33 @@ public final class PromisesTest {
         }
         due(x.undo(), STATE);
         due(x.of(0, 3), 1003);
+        // Each of the forty keeps what it was of.
+        for (int k = 1; k < 9; k++) {
+            x.ran(0, 1, 500);
+        }
+        for (int k = 0; k < 60; k++) {
+            int turn = k % 3;
+            x.mend(turn == 2 ? 1 : k % 9, turn, turn == 0 ? 2000 + k : turn == 1 ? (x.of(k % 9, 4) + 2) % 3 - 1 : k);
+        }
+        for (int k = 0; k < 40; k++) {
+            x.undo();
+        }
+        int[] times = {2018, 500, 500, 2012, 500, 500, 2015, 500, 500}, shoes = {0, 0, 0, 0, -1, 0, 0, -1, 0};
+        for (int run = 0; run < 9; run++) {
+            due(x.of(run, 3), times[run]);
+            due(x.of(run, 4), shoes[run]);
+        }
+        due(x.dead(1, 0), 17);
+        for (int k = 39; k >= 0; k--) {
+            due(x.redo(), k);
+        }
+        // Done again: as it was ahead of all the undoing.
+        int[] latestTimes = {2054, 500, 500, 2057, 500, 500, 2051, 500, 500}, latestShoes = {0, 1, 0, 0, 1, 0, 0, 0, 0};
+        for (int run = 0; run < 9; run++) {
+            due(x.of(run, 3), latestTimes[run]);
+            due(x.of(run, 4), latestShoes[run]);
+        }
+        due(x.dead(1, 0), 59);
     }
 
     private static void redo() {
