@@ -285,6 +285,21 @@ public final class BoundaryActsTest {
             element(1, 0) 0
             put(1, 0, 5) 1
             put(1, 1, 5) PLACE
+            row(1, 3, 2) 1
+            element(1, 0) 0
+            element(1, 1) 0
+            # what stood behind a shorter one is 0, too
+            puts(1, 0, 6, 7)
+            row(1, 3, 1) 1
+            row(1, 3, 2) 1
+            element(1, 0) 0
+            element(1, 1) 0
+            # and what a GAIN, or nothing, came between
+            puts(1, 0, 6, 7)
+            keep(1, -1) 1
+            row(1, 3, 2) 1
+            element(1, 0) 0
+            element(1, 1) 0
             """);
         s.says(32, "A SHELF holds a ROW: 1. BAD (sort, n above 60); -14.", """
             row(-1, 2, 1) BAD

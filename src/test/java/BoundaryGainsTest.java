@@ -281,6 +281,14 @@ public final class BoundaryGainsTest {
             gain(1) VOID
             mend(4, 1, 1) -1
             gain(1) 100
+            # whatever was asked ahead
+            mend(2, 0, 10) 900
+            person(2) VOID
+            gain(1) 100
+            unseen(5, 0) VOID
+            gain(1) 100
+            led() NOT
+            gain(1) 100
             mend(0, 1, 1) 0
             gain(1) 50
             mend(1, 1, 1) 0
@@ -490,6 +498,17 @@ public final class BoundaryGainsTest {
             ran(200, 50, 600) 2
             unseen(5, 0) -583
             unseen(5, 1) 250
+            """, """
+            # by LEVEL, not by TIME: 1000 and 500, the one NEW or the other
+            runner(1000, 50000) 0..1
+            course(2000) 0
+            ran(0, 50, 2000) 0
+            ran(100, 50, 1001) 1
+            unseen(5, 0) -1000
+            unseen(5, 1) 500
+            mend(0, 0, 1999) 2000
+            unseen(5, 0) -998
+            unseen(5, 1) 499
             """);
     }
 
@@ -918,6 +937,21 @@ public final class BoundaryGainsTest {
             ran(0, 1, 10) 2
             records(0, 99, -1) 1
             records(0, 99, 0) 2
+            """, """
+            # of many RUNNERS: by YEAR, whoever it was
+            runner(1000, 50000) 0..2
+            course(1000) 0
+            ran(0, 21, 990) 0
+            ran(200, 11, 1000) 1
+            ran(100, 31, 985) 2
+            ran(200, 21, 989) 3
+            ran(0, 31, 985) 4
+            ran(100, 1, 1100) 5
+            records(0, 99, -1) 4
+            records(0, 99, 0) 5
+            records(0, 99, 1) 1
+            records(0, 99, 2) 3
+            records(0, 99, 3) 2
             """);
         s.says(21, "RECORDS of a COURSE by a RULE of THICK (99: none): how many (i -1), the i-th RUN. BAD (also none such).", """
             records(0, 99, -1) BAD
@@ -1149,7 +1183,17 @@ public final class BoundaryGainsTest {
             // Of 0 and 3 the mean is 1, the squares 1 and 4: 2.
             gained(1, 0, 3) + "needed(1) 9\n", gained(1, -7) + "needed(1) 1\n",
             // Another sort's PAIRS do not count, nor do those with one unseen.
-            gained(4, 0, 20) + "ran(0, 22, 10)\nran(0, 30, 29999)\nran(0, 41, 10)\nneeded(1) 26\n");
+            gained(4, 0, 20) + """
+            ran(0, 22, 10)
+            needed(1) 26
+            ran(0, 32, 500)
+            needed(1) 26
+            ran(0, 41, 29999)
+            needed(1) 26
+            ran(0, 50, 10)
+            ran(0, 61, 10)
+            needed(1) 26
+            """);
         s.says(25, "GIVES of a SHOE squared", gained(4, 0, 20) + """
             needed(1) 26
             mend(1, 2, 5) 4
@@ -1378,7 +1422,11 @@ public final class BoundaryGainsTest {
             redo() STATE
             undo() 39..0
             of(0, 3) 1010
-            redo() 39..0
+            redo() 39
+            of(0, 3) 1011
+            redo() 38
+            of(0, 3) 1012
+            redo() 37..0
             redo() STATE
             of(0, 3) 1050
             count(7) 40

@@ -48,6 +48,7 @@ public final class BoundaryRunsTest {
             count(8) 0
             count(9) 0
             """);
+        constants();
         s.says(1, "SHOE 0 is the old one, there from the beginning: THICK 20, GIVES 0, MADE 0", """
             dead(0, 0) 0
             needed(0) NOT
@@ -75,6 +76,12 @@ public final class BoundaryRunsTest {
             count(0) 1
             runner(1000, 50000) 1
             """);
+    }
+
+    private static void constants() {
+        s.is(1, "public static final int BAD = -1, NOT = -2, FULL = -3, BIG = -4, STATE = -5, VOID = -2000000000;",
+            new long[] {ThreeHundred.BAD, ThreeHundred.NOT, ThreeHundred.FULL, ThreeHundred.BIG, ThreeHundred.STATE, ThreeHundred.VOID},
+            new long[] {-1, -2, -3, -4, -5, -2000000000});
     }
 
     private static void runner() {
@@ -108,16 +115,32 @@ public final class BoundaryRunsTest {
             runner(6000, 101000) BAD
             runner(6000, MIN) BAD
             runner(6000, MAX) BAD
+            # what is TRAINED and SEX does not drift
+            runner(6000, 100991) 2
+            runner(6000, 50991) 3
             course(1000) 0
             shoe(40, 0, 0) 1
-            law("f=595") 0
-            law("f=605") 1
-            race(0, 11, 0, 0) 2
+            # in year 1, and in year 99
+            law("f=595|f=105") 0
+            law("f=605|f=1095") 1
+            law("f=600") 2
+            race(0, 11, 0, 0) 4
             of(0, 4) 1
             of(1, 4) 0
-            race(10, 11, 0, 0) 2
-            of(2, 4) 0
-            of(3, 4) 1
+            race(10, 11, 0, 0) 4
+            of(4, 4) 0
+            of(5, 4) 1
+            of(6, 4) 1
+            of(7, 4) 0
+            race(0, 991, 0, 0) 4
+            of(8, 4) 1
+            race(10, 991, 0, 0) 4
+            of(12, 4) 0
+            of(13, 4) 1
+            of(14, 4) 1
+            race(20, 991, 0, 0) 4
+            of(18, 4) 0
+            of(19, 4) 1
             """);
         s.says(2, "TRAINED (0 .. 99)", """
             runner(1000, 50000) 0
@@ -592,6 +615,16 @@ public final class BoundaryRunsTest {
             of(0, 7) 0
             of(1, 7) -1
             of(3, 7) 2
+            """, SOME + """
+            # nothing but one RUNNER's RUNS, in a full object
+            ran(0, 11, 1000) 0..118
+            of(0, 7) 0
+            of(1, 7) 1
+            of(118, 7) 118
+            ran(0, 1, 1000) 119
+            of(119, 7) 0
+            of(0, 7) 1
+            of(118, 7) 119
             """);
     }
 
@@ -719,6 +752,19 @@ public final class BoundaryRunsTest {
             feed(2, 0) FULL
             feed(3, 0) FULL
             feed(1, 0) 120
+            """);
+        // What is refused leaves the bytes that are there: 119 of a text, and then its last.
+        s.says(9, "how many it has. BAD, FULL.", SOME + "shoe(40, 0, 0) 1\ntape(\"" + "0?1;".repeat(29) + "k<9\") 119\n" + """
+            feed(2, 30840) FULL
+            feed(4, 0) FULL
+            feed(0, 0) BAD
+            feed(5, 0) BAD
+            feed(1, 57) 120
+            feed(1, 0) FULL
+            feed(4, 0) FULL
+            law() 0
+            race(0, 1, 0, 0) 1
+            of(0, 4) 1
             """);
         s.says(9, "how many it has. BAD, FULL.", """
             30 x feed(4, 0)

@@ -96,6 +96,16 @@ final class Sentences {
         }
     }
 
+    /** The sentence names numbers, and these are the class's. */
+    void is(int promise, String sentence, long[] found, long[] due) {
+        says(promise, sentence);
+        for (int k = 0; k < due.length; k++) {
+            if (found[k] != due[k]) {
+                fails("number " + k + " is " + found[k] + ", due is " + due[k]);
+            }
+        }
+    }
+
     /** What was found; the promises from the one to the other must all have been shown. */
     void ends(int first, int last) {
         for (int promise = first; promise <= last; promise++) {
