@@ -351,7 +351,7 @@ public final class ThreeHundred {
         if (!acts.has(body) || !within(act, 0, Acts.ACTS - 1)) {
             return 0;
         }
-        return acts.called(body, act, x, 0);
+        return acts.acted(body, act, x);
     }
 
     public int trace(int i) {
@@ -1221,7 +1221,11 @@ public final class ThreeHundred {
             return k;
         }
 
-        int called(int n, int act, int x, int deep) {
+        int acted(int n, int act, int x) {
+            return called(n, act, x, 0);
+        }
+
+        private int called(int n, int act, int x, int deep) {
             return begin(n, kinds[n], act, x, deep);
         }
 

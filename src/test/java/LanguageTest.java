@@ -9,6 +9,8 @@ import java.util.ArrayList;
 import java.util.Arrays;
 import java.util.Collections;
 import java.util.List;
+import java.util.regex.Matcher;
+import java.util.regex.Pattern;
 
 /** The face of the document, and the rules of ../shared/LANGUAGE.md that a look at the class can show. */
 public final class LanguageTest {
@@ -38,6 +40,7 @@ public final class LanguageTest {
         face();
         members();
         words();
+        new CallsInText(source()).look();
         memory();
         System.out.println(wrong == 0 ? "the face and the language are as told" : wrong + " rules are broken");
         if (wrong != 0) {
@@ -123,7 +126,7 @@ public final class LanguageTest {
         for (int i = 0; i < text.length(); i++) {
             must(text.charAt(i) < 128, "a sign beyond 127 at " + i);
         }
-        String code = text.replaceAll("(?s)/\\*.*?\\*/", "").replaceAll("//[^\n]*", "");
+        String code = source();
         for (String word : FORBIDDEN) {
             must(!code.matches("(?s).*\\b" + word.replace(".", "\\.") + "\\b.*"), "the word " + word);
         }
@@ -134,6 +137,101 @@ public final class LanguageTest {
             line++;
             if (one.matches(" {4}( {4})?[a-z].*\\) \\{")) start = line;
             if (one.matches(" {4}( {4})?\\}")) must(line - start <= 60, "a long method ends in line " + line);
+        }
+    }
+
+    private static String source() throws Exception {
+        return Files.readString(Path.of("src/main/java/ThreeHundred.java")).replaceAll("(?s)/\\*.*?\\*/", "").replaceAll("//[^\n]*", "");
+    }
+
+    /**
+     * Which method calls which, as the text tells: by its name alone within a class (or the one around it), behind a
+     * dot in any class that has the name. So more calls may be seen than there are, and never fewer.
+     */
+    private static final class CallsInText {
+        private static final int MOST_DEEP = 8;
+        private static final Pattern CLASS = Pattern.compile(" {4}private static final class (\\w+) \\{");
+        private static final Pattern METHOD = Pattern.compile("( {4}| {8})((?:public |private |static )*)[\\w\\[\\]]+ (\\w+)\\(.*\\) \\{");
+        private static final Pattern CALLED = Pattern.compile("(\\.)?\\b(\\w+)\\(");
+        private final List<String> owners = new ArrayList<>(), names = new ArrayList<>(), signs = new ArrayList<>(), bodies = new ArrayList<>();
+        private final boolean[][] calls;
+        private final boolean[][] reaches;
+
+        CallsInText(String code) {
+            String owner = "ThreeHundred", end = "    }";
+            StringBuilder body = null;
+            for (String line : code.split("\n")) {
+                Matcher type = CLASS.matcher(line), method = METHOD.matcher(line);
+                if (type.matches()) {
+                    owner = type.group(1);
+                } else if (body == null && method.matches()) {
+                    end = method.group(1) + "}";
+                    owners.add(owner);
+                    signs.add(method.group(2));
+                    names.add(method.group(3));
+                    body = new StringBuilder();
+                } else if (body != null && line.equals(end)) {
+                    bodies.add(body.toString());
+                    body = null;
+                } else if (body != null) {
+                    body.append(line).append('\n');
+                }
+            }
+            calls = new boolean[names.size()][names.size()];
+            reaches = new boolean[names.size()][names.size()];
+        }
+
+        void look() {
+            must(names.size() == bodies.size() && names.size() > 100, "so many methods in the text: " + names.size());
+            for (int from = 0; from < names.size(); from++) {
+                Matcher called = CALLED.matcher(bodies.get(from));
+                while (called.find()) {
+                    mark(from, called.group(1) != null, called.group(2));
+                }
+            }
+            follow();
+            for (int n = 0; n < names.size(); n++) {
+                must(!reaches[n][n] || signs.get(n).contains("private"), "recursion, and not private: " + owners.get(n) + "." + names.get(n));
+                must(deep(n) <= MOST_DEEP, "so many calls deep: " + deep(n) + ", " + owners.get(n) + "." + names.get(n));
+            }
+        }
+
+        private void mark(int from, boolean behindDot, String name) {
+            boolean own = false;
+            for (int to = 0; to < names.size() && !behindDot; to++) {
+                own |= names.get(to).equals(name) && owners.get(to).equals(owners.get(from));
+            }
+            for (int to = 0; to < names.size(); to++) {
+                String owner = owners.get(to);
+                if (names.get(to).equals(name) && (behindDot || owner.equals(own ? owners.get(from) : "ThreeHundred"))) {
+                    calls[from][to] = true;
+                    reaches[from][to] = true;
+                }
+            }
+        }
+
+        private void follow() {
+            for (int by = 0; by < names.size(); by++) {
+                for (int from = 0; from < names.size(); from++) {
+                    for (int to = 0; to < names.size(); to++) {
+                        reaches[from][to] |= reaches[from][by] && reaches[by][to];
+                    }
+                }
+            }
+        }
+
+        /** Methods that call one another count as one. */
+        private int deep(int n) {
+            int most = 0;
+            for (int from = 0; from < names.size(); from++) {
+                boolean one = from == n || reaches[n][from] && reaches[from][n];
+                for (int to = 0; to < names.size() && one; to++) {
+                    if (calls[from][to] && !(to == n || reaches[to][n])) {
+                        most = Math.max(most, deep(to));
+                    }
+                }
+            }
+            return 1 + most;
         }
     }
 
